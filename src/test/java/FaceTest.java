@@ -63,7 +63,8 @@ public final class FaceTest {
         for (Method method : RoamingHouse.class.getDeclaredMethods()) {
             int flags = method.getModifiers();
             if (!Modifier.isPrivate(flags)) {
-                String odd = Modifier.isPublic(flags) && !Modifier.isStatic(flags) ? "" : Modifier.toString(flags) + " ";
+                boolean isPlain = Modifier.isPublic(flags) && !Modifier.isStatic(flags);
+                String odd = isPlain ? "" : Modifier.toString(flags) + " ";
                 methods.add(odd + method.getReturnType() + " " + method.getName() + parameters(method)
                     + " throws " + thrown(method));
             }

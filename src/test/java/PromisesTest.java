@@ -40,73 +40,7 @@ public final class PromisesTest {
         test.owed();
         test.shortfall();
         test.net();
-        test.wrongCallsInABusyHouse();
         test.checks.end("PromisesTest");
-    }
-
-    /** Begins a file with calls of 60 seconds each, rightly told by the tariff of now. */
-    private static int draft(RoamingHouse house, int host, int home, int calls) {
-        int file = house.begin(host, home);
-        for (int i = 0; i < calls; i++) {
-            house.enter(file, 60, house.charge(host, 60));
-        }
-        return file;
-    }
-
-    /** Begins and sends a file with one call, rightly told; the call's number is the answer. */
-    private static int accepted(RoamingHouse house, int host, int home, int seconds) {
-        int file = house.begin(host, home);
-        int call = house.enter(file, seconds, house.charge(host, seconds));
-        house.send(file, house.expected(host, home));
-        return call;
-    }
-
-    private static void letPass(RoamingHouse house, int months) {
-        for (int i = 0; i < months; i++) {
-            house.nextMonth();
-        }
-    }
-
-    /** A house in which every kind of state is there: to see whether a call that throws changes any of it. */
-    private static RoamingHouse busyHouse() {
-        RoamingHouse house = new RoamingHouse();
-        house.setTariff(0, 30, 7, 3);
-        house.setRate(0, 1500);
-        house.agree(0, 1, 90, 2500, false);
-        int upheld = accepted(house, 0, 1, 61);
-        accepted(house, 0, 1, 120);
-        int back = accepted(house, 0, 1, 600);
-        house.dispute(upheld);
-        house.answer(upheld, true);
-        house.dispute(back);
-        house.answer(back, false);
-        letPass(house, 12);
-        house.promise(0, 1, 5000);
-        house.promise(1, 0, 77);
-        house.dispute(accepted(house, 0, 1, 45));
-        house.send(draft(house, 0, 1, 2), 9);
-        house.send(draft(house, 0, 1, 1), 1);
-        draft(house, 0, 1, 1);
-        house.begin(2, 3);
-        return house;
-    }
-
-    private void unchangedOutOfBounds(String what, RoamingHouse house, Checks.Deed deed) {
-        String before = Snapshots.of(house);
-        checks.outOfBounds(what, deed);
-        checks.due("the state after " + what, Snapshots.of(house), before);
-    }
-
-    private void unchangedIllegalArgument(String what, RoamingHouse house, Checks.Deed deed) {
-        String before = Snapshots.of(house);
-        checks.illegalArgument(what, deed);
-        checks.due("the state after " + what, Snapshots.of(house), before);
-    }
-
-    private void unchangedIllegalState(String what, RoamingHouse house, Checks.Deed deed) {
-        String before = Snapshots.of(house);
-        checks.illegalState(what, deed);
-        checks.due("the state after " + what, Snapshots.of(house), before);
     }
 
     private interface OfPair {
@@ -114,15 +48,15 @@ public final class PromisesTest {
     }
 
     /** What every method of a pair refuses; the deed's other arguments may be wrong, too. */
-    private void refusesWrongPairs(String what, RoamingHouse house, OfPair deed) {
+    private void refusesWrongPairs(String what, OfPair deed) {
         for (int none : NO_OPERATORS) {
-            unchangedOutOfBounds(what + " host " + none, house, () -> deed.run(none, 1));
-            unchangedOutOfBounds(what + " home " + none, house, () -> deed.run(1, none));
-            unchangedOutOfBounds(what + " both " + none, house, () -> deed.run(none, none));
+            checks.outOfBounds(what + " host " + none, () -> deed.run(none, 1));
+            checks.outOfBounds(what + " home " + none, () -> deed.run(1, none));
+            checks.outOfBounds(what + " both " + none, () -> deed.run(none, none));
         }
         for (int same = 0; same < 4; same++) {
             int operator = same;
-            unchangedIllegalArgument(what + " twice " + same, house, () -> deed.run(operator, operator));
+            checks.illegalArgument(what + " twice " + same, () -> deed.run(operator, operator));
         }
     }
 
@@ -148,7 +82,7 @@ public final class PromisesTest {
             checks.due("price", house.setTariff(host, 60, 10, 0), 10);
             checks.due("rate", house.setRate(host, 1000), 1000);
         }
-        accepted(house, 0, 1, 60);
+        Houses.accepted(house, 0, 1, 60);
         RoamingHouse other = new RoamingHouse();
         checks.due("calls of another object", other.calls(), 0);
         checks.due("expected of another object", other.expected(0, 1), 1);
@@ -164,15 +98,15 @@ public final class PromisesTest {
         checks.due("charge of 601", house.charge(1, 601), 3000);
         checks.due("another host", house.charge(0, 600), 100);
         for (int none : NO_OPERATORS) {
-            unchangedOutOfBounds("host " + none, house, () -> house.setTariff(none, 60, 10, 0));
-            unchangedOutOfBounds("all wrong, host " + none, house, () -> house.setTariff(none, 0, -1, -1));
+            checks.outOfBounds("host " + none, () -> house.setTariff(none, 60, 10, 0));
+            checks.outOfBounds("all wrong, host " + none, () -> house.setTariff(none, 0, -1, -1));
         }
         for (int step : new int[] {0, -1, 601, Integer.MIN_VALUE, Integer.MAX_VALUE}) {
-            unchangedIllegalArgument("step " + step, house, () -> house.setTariff(1, step, 1, 1));
+            checks.illegalArgument("step " + step, () -> house.setTariff(1, step, 1, 1));
         }
         for (int wrong : new int[] {-1, 1001, Integer.MIN_VALUE, Integer.MAX_VALUE}) {
-            unchangedIllegalArgument("price " + wrong, house, () -> house.setTariff(1, 1, wrong, 1));
-            unchangedIllegalArgument("beginning " + wrong, house, () -> house.setTariff(1, 1, 1, wrong));
+            checks.illegalArgument("price " + wrong, () -> house.setTariff(1, 1, wrong, 1));
+            checks.illegalArgument("beginning " + wrong, () -> house.setTariff(1, 1, 1, wrong));
         }
     }
 
@@ -192,11 +126,11 @@ public final class PromisesTest {
         house.setTariff(3, 1, 0, 0);
         checks.due("for nothing", house.charge(3, 36000), 0);
         for (int none : NO_OPERATORS) {
-            unchangedOutOfBounds("host " + none, house, () -> house.charge(none, 60));
-            unchangedOutOfBounds("all wrong, host " + none, house, () -> house.charge(none, 0));
+            checks.outOfBounds("host " + none, () -> house.charge(none, 60));
+            checks.outOfBounds("all wrong, host " + none, () -> house.charge(none, 0));
         }
         for (int seconds : new int[] {0, -1, 36001, Integer.MIN_VALUE, Integer.MAX_VALUE}) {
-            unchangedIllegalArgument("seconds " + seconds, house, () -> house.charge(3, seconds));
+            checks.illegalArgument("seconds " + seconds, () -> house.charge(3, seconds));
         }
     }
 
@@ -207,11 +141,11 @@ public final class PromisesTest {
             checks.due("file", house.begin(file % 4, (file + 1 + file / 4 % 3) % 4), file);
             checks.due("stateOf", house.stateOf(file), RoamingHouse.DRAFT);
         }
-        unchangedIllegalState("the 31st file", house, () -> house.begin(0, 1));
+        checks.illegalState("the 31st file", () -> house.begin(0, 1));
         checks.outOfBounds("the 31st file's state", () -> house.stateOf(30));
-        refusesWrongPairs("in a full house", house, house::begin);
+        refusesWrongPairs("in a full house", house::begin);
         RoamingHouse fresh = new RoamingHouse();
-        refusesWrongPairs("in a new house", fresh, fresh::begin);
+        refusesWrongPairs("in a new house", fresh::begin);
         checks.due("the first file after wrong calls", fresh.begin(3, 0), 0);
     }
 
@@ -225,21 +159,21 @@ public final class PromisesTest {
         checks.due("the first file again", house.enter(first, 60, 10), 2);
         checks.due("call", house.call(1), RoamingHouse.OUTSIDE);
         for (int none : new int[] {-1, 2, 30, Integer.MIN_VALUE, Integer.MAX_VALUE}) {
-            unchangedOutOfBounds("file " + none, house, () -> house.enter(none, 60, 10));
-            unchangedOutOfBounds("all wrong, file " + none, house, () -> house.enter(none, 0, -1));
+            checks.outOfBounds("file " + none, () -> house.enter(none, 60, 10));
+            checks.outOfBounds("all wrong, file " + none, () -> house.enter(none, 0, -1));
         }
         for (int wrong : new int[] {0, -1, 36001, Integer.MIN_VALUE, Integer.MAX_VALUE}) {
-            unchangedIllegalArgument("seconds " + wrong, house, () -> house.enter(first, wrong, 10));
+            checks.illegalArgument("seconds " + wrong, () -> house.enter(first, wrong, 10));
         }
         for (int wrong : new int[] {-1, 50000001, Integer.MIN_VALUE, Integer.MAX_VALUE}) {
-            unchangedIllegalArgument("told " + wrong, house, () -> house.enter(first, 60, wrong));
+            checks.illegalArgument("told " + wrong, () -> house.enter(first, 60, wrong));
         }
         house.send(first, 2);
-        unchangedIllegalState("into a file that waits", house, () -> house.enter(first, 60, 10));
-        unchangedIllegalArgument("wrong seconds into a file that waits", house, () -> house.enter(first, 0, 10));
-        unchangedIllegalArgument("wrongly told into a file that waits", house, () -> house.enter(first, 1, -1));
+        checks.illegalState("into a file that waits", () -> house.enter(first, 60, 10));
+        checks.illegalArgument("wrong seconds into a file that waits", () -> house.enter(first, 0, 10));
+        checks.illegalArgument("wrongly told into a file that waits", () -> house.enter(first, 1, -1));
         house.send(second, 1);
-        unchangedIllegalState("into a file that is bad", house, () -> house.enter(second, 60, 10));
+        checks.illegalState("into a file that is bad", () -> house.enter(second, 60, 10));
         checks.due("a call after wrong ones", house.enter(house.begin(3, 2), 60, 10), 3);
     }
 
@@ -251,9 +185,9 @@ public final class PromisesTest {
         for (int call = 0; call < 60; call++) {
             checks.due("call", house.enter(call % 7 == 0 ? other : file, 36000, 6000), call);
         }
-        unchangedIllegalState("the 61st call", house, () -> house.enter(file, 60, 10));
-        unchangedIllegalArgument("the 61st call, wrong", house, () -> house.enter(file, 60, -1));
-        unchangedOutOfBounds("the 61st call, no file", house, () -> house.enter(2, 60, 10));
+        checks.illegalState("the 61st call", () -> house.enter(file, 60, 10));
+        checks.illegalArgument("the 61st call, wrong", () -> house.enter(file, 60, -1));
+        checks.outOfBounds("the 61st call, no file", () -> house.enter(2, 60, 10));
         checks.due("send all", house.send(file, 1), RoamingHouse.ACCEPTED);
         checks.due("owed for all", house.owed(0, 1, 0), 51 * 6000);
         checks.due("send the others", house.send(other, 1), RoamingHouse.ACCEPTED);
@@ -264,30 +198,31 @@ public final class PromisesTest {
         checks.begin("6 send");
         RoamingHouse house = new RoamingHouse();
         int empty = house.begin(0, 1);
-        unchangedIllegalState("a file without calls", house, () -> house.send(empty, 1));
-        unchangedIllegalArgument("a wrong number without calls", house, () -> house.send(empty, 0));
-        int first = draft(house, 0, 1, 1);
+        checks.illegalState("a file without calls", () -> house.send(empty, 1));
+        checks.illegalArgument("a wrong number without calls", () -> house.send(empty, 0));
+        int first = Houses.draft(house, 0, 1, 1);
         for (int wrong : new int[] {0, -1, 100, Integer.MIN_VALUE, Integer.MAX_VALUE}) {
-            unchangedIllegalArgument("number " + wrong, house, () -> house.send(first, wrong));
+            checks.illegalArgument("number " + wrong, () -> house.send(first, wrong));
         }
         for (int none : new int[] {-1, 2, 30, Integer.MIN_VALUE, Integer.MAX_VALUE}) {
-            unchangedOutOfBounds("file " + none, house, () -> house.send(none, 1));
-            unchangedOutOfBounds("all wrong, file " + none, house, () -> house.send(none, 0));
+            checks.outOfBounds("file " + none, () -> house.send(none, 1));
+            checks.outOfBounds("all wrong, file " + none, () -> house.send(none, 0));
         }
         checks.due("the expected one", house.send(first, 1), RoamingHouse.ACCEPTED);
-        unchangedIllegalState("accepted already", house, () -> house.send(first, 2));
-        unchangedIllegalArgument("accepted already, and a wrong number", house, () -> house.send(first, 100));
-        int twice = draft(house, 0, 1, 1);
+        checks.illegalState("accepted already", () -> house.send(first, 2));
+        checks.illegalArgument("accepted already, and a wrong number", () -> house.send(first, 100));
+        int twice = Houses.draft(house, 0, 1, 1);
         checks.due("a number lower than the expected one", house.send(twice, 1), RoamingHouse.DOUBLE);
-        unchangedIllegalState("double already", house, () -> house.send(twice, 2));
+        checks.illegalState("double already", () -> house.send(twice, 2));
         checks.due("calls of a double file", house.call(1), RoamingHouse.OUTSIDE);
-        int last = draft(house, 0, 1, 1);
+        int last = Houses.draft(house, 0, 1, 1);
         checks.due("the greatest number", house.send(last, 99), RoamingHouse.WAITS);
-        unchangedIllegalState("waits already", house, () -> house.send(last, 2));
-        checks.due("a number with which one waits", house.send(draft(house, 0, 1, 1), 99), RoamingHouse.DOUBLE);
-        checks.due("another pair, the same number", house.send(draft(house, 1, 0, 1), 99), RoamingHouse.WAITS);
-        checks.due("another home, the same number", house.send(draft(house, 0, 2, 1), 99), RoamingHouse.WAITS);
-        checks.due("the expected one of another pair", house.send(draft(house, 1, 0, 1), 1), RoamingHouse.ACCEPTED);
+        checks.illegalState("waits already", () -> house.send(last, 2));
+        checks.due("a number with which one waits", house.send(Houses.draft(house, 0, 1, 1), 99), RoamingHouse.DOUBLE);
+        checks.due("another pair, the same number", house.send(Houses.draft(house, 1, 0, 1), 99), RoamingHouse.WAITS);
+        checks.due("another home, the same number", house.send(Houses.draft(house, 0, 2, 1), 99), RoamingHouse.WAITS);
+        int other = Houses.draft(house, 1, 0, 1);
+        checks.due("the expected one of another pair", house.send(other, 1), RoamingHouse.ACCEPTED);
     }
 
     private void sendOutOfOrder() {
@@ -295,9 +230,9 @@ public final class PromisesTest {
         RoamingHouse house = new RoamingHouse();
         int[] files = new int[7];
         for (int number = 1; number <= 6; number++) {
-            files[number] = draft(house, 2, 0, 1);
+            files[number] = Houses.draft(house, 2, 0, 1);
         }
-        int foreign = draft(house, 2, 1, 1);
+        int foreign = Houses.draft(house, 2, 1, 1);
         checks.due("number 3", house.send(files[3], 3), RoamingHouse.WAITS);
         checks.due("number 6", house.send(files[6], 6), RoamingHouse.WAITS);
         checks.due("number 2", house.send(files[2], 2), RoamingHouse.WAITS);
@@ -322,7 +257,7 @@ public final class PromisesTest {
         for (int file = 0; file < 30; file++) {
             checks.due("lacking before", house.lacking(1, 3), file == 0 ? 0 : 30 - file);
             int due = file == 29 ? RoamingHouse.ACCEPTED : RoamingHouse.WAITS;
-            checks.due("sent backwards", house.send(draft(house, 1, 3, 2), 30 - file), due);
+            checks.due("sent backwards", house.send(Houses.draft(house, 1, 3, 2), 30 - file), due);
         }
         for (int file = 0; file < 30; file++) {
             checks.due("looked at", house.stateOf(file), RoamingHouse.ACCEPTED);
@@ -338,13 +273,13 @@ public final class PromisesTest {
     private void sendLate() {
         checks.begin("6 send, late");
         RoamingHouse house = new RoamingHouse();
-        int waiting = draft(house, 0, 1, 1);
-        int timely = draft(house, 0, 2, 1);
-        int late = draft(house, 0, 1, 1);
+        int waiting = Houses.draft(house, 0, 1, 1);
+        int timely = Houses.draft(house, 0, 2, 1);
+        int late = Houses.draft(house, 0, 1, 1);
         house.send(waiting, 2);
-        letPass(house, 2);
+        Houses.letPass(house, 2);
         checks.due("2 months above", house.send(timely, 1), RoamingHouse.ACCEPTED);
-        int fresh = draft(house, 0, 1, 1);
+        int fresh = Houses.draft(house, 0, 1, 1);
         house.send(fresh, 3);
         house.nextMonth();
         checks.due("3 months above", house.send(late, 1), RoamingHouse.LATE);
@@ -357,7 +292,7 @@ public final class PromisesTest {
         checks.due("month of a call behind late files", house.monthOf(3), 3);
         int wrong = house.begin(0, 1);
         house.enter(wrong, 60, 11);
-        letPass(house, 3);
+        Houses.letPass(house, 3);
         checks.due("late and bad", house.send(wrong, 4), RoamingHouse.LATE);
     }
 
@@ -370,7 +305,7 @@ public final class PromisesTest {
         };
         int number = 1;
         for (int[] row : rightWrongAndState) {
-            int file = draft(house, 0, 1, row[0]);
+            int file = Houses.draft(house, 0, 1, row[0]);
             int call = house.calls();
             for (int i = 0; i < row[1]; i++) {
                 house.enter(file, 60, i % 2 == 0 ? 9 : 11);
@@ -390,7 +325,7 @@ public final class PromisesTest {
     private void sendByTheTariffOfNow() {
         checks.begin("6 send, by the tariff of now");
         RoamingHouse house = new RoamingHouse();
-        int first = draft(house, 0, 1, 1);
+        int first = Houses.draft(house, 0, 1, 1);
         int second = house.begin(0, 1);
         house.enter(second, 60, 25);
         house.send(second, 2);
@@ -404,19 +339,19 @@ public final class PromisesTest {
     private void stateOf() {
         checks.begin("7 stateOf");
         RoamingHouse house = new RoamingHouse();
-        int first = draft(house, 0, 1, 1);
+        int first = Houses.draft(house, 0, 1, 1);
         checks.due("draft", house.stateOf(first), RoamingHouse.DRAFT);
         house.send(first, 3);
         checks.due("waits", house.stateOf(first), RoamingHouse.WAITS);
-        int second = draft(house, 0, 1, 1);
+        int second = Houses.draft(house, 0, 1, 1);
         house.send(second, 3);
         checks.due("double", house.stateOf(second), RoamingHouse.DOUBLE);
-        int third = draft(house, 0, 1, 1);
+        int third = Houses.draft(house, 0, 1, 1);
         house.send(third, 1);
         checks.due("accepted", house.stateOf(third), RoamingHouse.ACCEPTED);
         int fourth = house.begin(0, 1);
         house.enter(fourth, 60, 11);
-        letPass(house, 3);
+        Houses.letPass(house, 3);
         house.send(fourth, 2);
         checks.due("late", house.stateOf(fourth), RoamingHouse.LATE);
         int fifth = house.begin(0, 1);
@@ -424,48 +359,48 @@ public final class PromisesTest {
         house.send(fifth, 4);
         checks.due("bad", house.stateOf(fifth), RoamingHouse.BAD);
         for (int none : new int[] {-1, 5, 30, Integer.MIN_VALUE, Integer.MAX_VALUE}) {
-            unchangedOutOfBounds("file " + none, house, () -> house.stateOf(none));
+            checks.outOfBounds("file " + none, () -> house.stateOf(none));
         }
     }
 
     private void expected() {
         checks.begin("8 expected");
         RoamingHouse house = new RoamingHouse();
-        house.send(draft(house, 0, 1, 1), 1);
+        house.send(Houses.draft(house, 0, 1, 1), 1);
         checks.due("after a file", house.expected(0, 1), 2);
-        house.send(draft(house, 0, 1, 1), 1);
+        house.send(Houses.draft(house, 0, 1, 1), 1);
         checks.due("after a double one", house.expected(0, 1), 2);
-        house.send(draft(house, 0, 1, 1), 3);
+        house.send(Houses.draft(house, 0, 1, 1), 3);
         checks.due("after one that waits", house.expected(0, 1), 2);
         checks.due("the other way round", house.expected(1, 0), 1);
         checks.due("another home", house.expected(0, 2), 1);
         checks.due("another host", house.expected(2, 1), 1);
-        refusesWrongPairs("expected", house, house::expected);
+        refusesWrongPairs("expected", house::expected);
     }
 
     private void lacking() {
         checks.begin("9 lacking");
         RoamingHouse house = new RoamingHouse();
-        int first = draft(house, 3, 1, 1);
+        int first = Houses.draft(house, 3, 1, 1);
         checks.due("with a draft", house.lacking(3, 1), 0);
-        house.send(draft(house, 3, 1, 1), 5);
+        house.send(Houses.draft(house, 3, 1, 1), 5);
         checks.due("1 to 4", house.lacking(3, 1), 4);
-        house.send(draft(house, 3, 1, 1), 3);
+        house.send(Houses.draft(house, 3, 1, 1), 3);
         checks.due("1, 2, 4", house.lacking(3, 1), 3);
-        house.send(draft(house, 3, 1, 1), 3);
+        house.send(Houses.draft(house, 3, 1, 1), 3);
         checks.due("a double one", house.lacking(3, 1), 3);
-        house.send(draft(house, 3, 2, 1), 4);
+        house.send(Houses.draft(house, 3, 2, 1), 4);
         checks.due("one of another pair", house.lacking(3, 1), 3);
         checks.due("the other pair", house.lacking(3, 2), 3);
         house.send(first, 1);
         checks.due("2, 4", house.lacking(3, 1), 2);
-        house.send(draft(house, 3, 1, 1), 2);
+        house.send(Houses.draft(house, 3, 1, 1), 2);
         checks.due("4", house.lacking(3, 1), 1);
-        house.send(draft(house, 3, 1, 1), 4);
+        house.send(Houses.draft(house, 3, 1, 1), 4);
         checks.due("none", house.lacking(3, 1), 0);
-        house.send(draft(house, 3, 1, 1), 99);
+        house.send(Houses.draft(house, 3, 1, 1), 99);
         checks.due("6 to 98", house.lacking(3, 1), 93);
-        refusesWrongPairs("lacking", house, house::lacking);
+        refusesWrongPairs("lacking", house::lacking);
     }
 
     private void calls() {
@@ -488,14 +423,14 @@ public final class PromisesTest {
 
     private void refusesWrongCalls(String what, RoamingHouse house, IntConsumer deed) {
         for (int none : new int[] {-1, house.calls(), 60, Integer.MIN_VALUE, Integer.MAX_VALUE}) {
-            unchangedOutOfBounds(what + " " + none, house, () -> deed.accept(none));
+            checks.outOfBounds(what + " " + none, () -> deed.accept(none));
         }
     }
 
     private void call() {
         checks.begin("11 call");
         RoamingHouse house = new RoamingHouse();
-        int file = draft(house, 0, 1, 3);
+        int file = Houses.draft(house, 0, 1, 3);
         int refused = house.enter(file, 60, 11);
         checks.due("in a draft", house.call(0), RoamingHouse.OUTSIDE);
         house.send(file, 1);
@@ -515,10 +450,10 @@ public final class PromisesTest {
     private void monthOf() {
         checks.begin("12 monthOf");
         RoamingHouse house = new RoamingHouse();
-        int file = draft(house, 0, 1, 3);
+        int file = Houses.draft(house, 0, 1, 3);
         int refused = house.enter(file, 60, 11);
         checks.due("in a draft", house.monthOf(0), RoamingHouse.NONE);
-        letPass(house, 2);
+        Houses.letPass(house, 2);
         house.send(file, 1);
         house.nextMonth();
         checks.due("not the month of the file", house.monthOf(0), 2);
@@ -537,7 +472,7 @@ public final class PromisesTest {
         checks.begin("13 owedFor");
         RoamingHouse house = new RoamingHouse();
         house.setTariff(0, 60, 27, 0);
-        int file = draft(house, 0, 1, 3);
+        int file = Houses.draft(house, 0, 1, 3);
         int refused = house.enter(file, 60, 28);
         checks.due("in a draft", house.owedFor(0), 0);
         house.send(file, 1);
@@ -555,7 +490,7 @@ public final class PromisesTest {
         house.agree(0, 1, 0, 10000, false);
         checks.due("all of it taken off", house.owedFor(0), 0);
         house.setTariff(0, 1, 1000, 1000);
-        int dear = accepted(house, 0, 1, 36000);
+        int dear = Houses.accepted(house, 0, 1, 36000);
         house.agree(0, 1, 0, 9999, false);
         checks.due("a great discount", house.owedFor(dear), 36001000 - 35997399);
         house.agree(0, 1, 0, 0, true);
@@ -603,16 +538,16 @@ public final class PromisesTest {
     private void owedForByYears() {
         checks.begin("13 owedFor, by years");
         RoamingHouse house = new RoamingHouse();
-        letPass(house, 11);
-        int first = accepted(house, 0, 1, 600);
+        Houses.letPass(house, 11);
+        int first = Houses.accepted(house, 0, 1, 600);
         house.nextMonth();
-        int second = accepted(house, 0, 1, 300);
-        letPass(house, 11);
-        int third = accepted(house, 0, 1, 300);
+        int second = Houses.accepted(house, 0, 1, 300);
+        Houses.letPass(house, 11);
+        int third = Houses.accepted(house, 0, 1, 300);
         house.nextMonth();
-        int fourth = accepted(house, 0, 1, 60);
-        letPass(house, 11);
-        int fifth = accepted(house, 0, 1, 60);
+        int fourth = Houses.accepted(house, 0, 1, 60);
+        Houses.letPass(house, 11);
+        int fifth = Houses.accepted(house, 0, 1, 60);
         house.agree(0, 1, 300, 1000, false);
         checks.due("first of year 0", house.owedFor(first), 100);
         checks.due("first of year 1", house.owedFor(second), 50);
@@ -630,33 +565,33 @@ public final class PromisesTest {
     private void dispute() {
         checks.begin("14 dispute");
         RoamingHouse house = new RoamingHouse();
-        int file = draft(house, 0, 1, 4);
+        int file = Houses.draft(house, 0, 1, 4);
         int refused = house.enter(file, 60, 11);
-        unchangedIllegalState("in a draft", house, () -> house.dispute(0));
+        checks.illegalState("in a draft", () -> house.dispute(0));
         house.send(file, 1);
         house.dispute(0);
         checks.due("in its month", house.call(0), RoamingHouse.DISPUTED);
-        unchangedIllegalState("a disputed one", house, () -> house.dispute(0));
-        unchangedIllegalState("a refused one", house, () -> house.dispute(refused));
+        checks.illegalState("a disputed one", () -> house.dispute(0));
+        checks.illegalState("a refused one", () -> house.dispute(refused));
         house.nextMonth();
         house.dispute(1);
         checks.due("in the month behind it", house.call(1), RoamingHouse.DISPUTED);
         house.answer(0, true);
-        unchangedIllegalState("an upheld one", house, () -> house.dispute(0));
+        checks.illegalState("an upheld one", () -> house.dispute(0));
         house.answer(1, false);
-        unchangedIllegalState("one given back", house, () -> house.dispute(1));
+        checks.illegalState("one given back", () -> house.dispute(1));
         house.nextMonth();
-        unchangedIllegalState("two months behind it", house, () -> house.dispute(2));
+        checks.illegalState("two months behind it", () -> house.dispute(2));
         refusesWrongCalls("dispute", house, house::dispute);
     }
 
     private void answer() {
         checks.begin("15 answer");
         RoamingHouse house = new RoamingHouse();
-        int file = draft(house, 0, 1, 3);
-        unchangedIllegalState("in a draft", house, () -> house.answer(0, true));
+        int file = Houses.draft(house, 0, 1, 3);
+        checks.illegalState("in a draft", () -> house.answer(0, true));
         house.send(file, 1);
-        unchangedIllegalState("an owed one", house, () -> house.answer(0, false));
+        checks.illegalState("an owed one", () -> house.answer(0, false));
         house.dispute(0);
         house.dispute(1);
         house.answer(0, true);
@@ -664,17 +599,17 @@ public final class PromisesTest {
         house.nextMonth();
         house.answer(1, false);
         checks.due("given back in the month behind", house.call(1), RoamingHouse.BACK);
-        unchangedIllegalState("an upheld one", house, () -> house.answer(0, false));
-        unchangedIllegalState("one given back", house, () -> house.answer(1, true));
+        checks.illegalState("an upheld one", () -> house.answer(0, false));
+        checks.illegalState("one given back", () -> house.answer(1, true));
         refusesWrongCalls("answer", house, call -> house.answer(call, true));
     }
 
     private void agree() {
         checks.begin("16 agree");
         RoamingHouse house = new RoamingHouse();
-        int first = accepted(house, 0, 1, 600);
-        int second = accepted(house, 0, 1, 600);
-        int other = accepted(house, 1, 0, 600);
+        int first = Houses.accepted(house, 0, 1, 600);
+        int second = Houses.accepted(house, 0, 1, 600);
+        int other = Houses.accepted(house, 1, 0, 600);
         checks.due("without an agreement", house.owedFor(second), 100);
         house.agree(0, 1, 600, 2000, false);
         checks.due("ahead too little", house.owedFor(first), 100);
@@ -689,13 +624,13 @@ public final class PromisesTest {
         checks.due("a volume of 0, not going back", house.owedFor(first), 99);
         checks.due("the other way round", house.owedFor(other), 100);
         for (int wrong : new int[] {-1, 1000001, Integer.MIN_VALUE, Integer.MAX_VALUE}) {
-            unchangedIllegalArgument("volume " + wrong, house, () -> house.agree(0, 1, wrong, 5000, true));
+            checks.illegalArgument("volume " + wrong, () -> house.agree(0, 1, wrong, 5000, true));
         }
         for (int wrong : new int[] {-1, 10001, Integer.MIN_VALUE, Integer.MAX_VALUE}) {
-            unchangedIllegalArgument("rate " + wrong, house, () -> house.agree(0, 1, 600, wrong, true));
+            checks.illegalArgument("rate " + wrong, () -> house.agree(0, 1, 600, wrong, true));
         }
-        refusesWrongPairs("agree", house, (host, home) -> house.agree(host, home, 0, 5000, true));
-        refusesWrongPairs("agree, all wrong", house, (host, home) -> house.agree(host, home, -1, -1, true));
+        refusesWrongPairs("agree", (host, home) -> house.agree(host, home, 0, 5000, true));
+        refusesWrongPairs("agree, all wrong", (host, home) -> house.agree(host, home, -1, -1, true));
         house.agree(0, 1, 1000000, 10000, true);
         checks.due("the greatest volume", house.owedFor(first), 100);
     }
@@ -706,22 +641,22 @@ public final class PromisesTest {
         checks.due("at first", house.promise(2, 1, 100000000), 0);
         checks.due("before", house.promise(2, 1, 7), 100000000);
         checks.due("the other way round", house.promise(1, 2, 0), 0);
-        letPass(house, 12);
+        Houses.letPass(house, 12);
         checks.due("falls short", house.shortfall(2, 1, 0), 7);
         for (int wrong : new int[] {-1, 100000001, Integer.MIN_VALUE, Integer.MAX_VALUE}) {
-            unchangedIllegalArgument("promise " + wrong, house, () -> house.promise(2, 1, wrong));
+            checks.illegalArgument("promise " + wrong, () -> house.promise(2, 1, wrong));
         }
-        refusesWrongPairs("promise", house, (host, home) -> house.promise(host, home, 5));
-        refusesWrongPairs("promise, all wrong", house, (host, home) -> house.promise(host, home, -1));
+        refusesWrongPairs("promise", (host, home) -> house.promise(host, home, 5));
+        refusesWrongPairs("promise, all wrong", (host, home) -> house.promise(host, home, -1));
         checks.due("after wrong calls", house.promise(2, 1, 0), 7);
     }
 
     private void setRate() {
         checks.begin("18 setRate");
         RoamingHouse house = new RoamingHouse();
-        accepted(house, 1, 2, 60);
+        Houses.accepted(house, 1, 2, 60);
         house.nextMonth();
-        accepted(house, 1, 2, 120);
+        Houses.accepted(house, 1, 2, 120);
         checks.due("at first", house.setRate(1, 100000), 1000);
         checks.due("a month that is past", house.net(1, 0), 1000);
         checks.due("this month", house.net(1, 1), 2000);
@@ -729,11 +664,11 @@ public final class PromisesTest {
         checks.due("the least", house.net(1, 1), 0);
         checks.due("another one's", house.setRate(2, 5), 1000);
         for (int none : NO_OPERATORS) {
-            unchangedOutOfBounds("operator " + none, house, () -> house.setRate(none, 5));
-            unchangedOutOfBounds("all wrong, operator " + none, house, () -> house.setRate(none, 0));
+            checks.outOfBounds("operator " + none, () -> house.setRate(none, 5));
+            checks.outOfBounds("all wrong, operator " + none, () -> house.setRate(none, 0));
         }
         for (int wrong : new int[] {0, -1, 100001, Integer.MIN_VALUE, Integer.MAX_VALUE}) {
-            unchangedIllegalArgument("rate " + wrong, house, () -> house.setRate(2, wrong));
+            checks.illegalArgument("rate " + wrong, () -> house.setRate(2, wrong));
         }
         checks.due("after wrong calls", house.setRate(2, 1000), 5);
     }
@@ -741,23 +676,23 @@ public final class PromisesTest {
     private void nextMonth() {
         checks.begin("19 nextMonth");
         RoamingHouse house = new RoamingHouse();
-        accepted(house, 0, 1, 60);
+        Houses.accepted(house, 0, 1, 60);
         for (int month = 1; month <= 35; month++) {
             checks.due("month", house.nextMonth(), month);
         }
-        unchangedIllegalState("behind the last one", house, house::nextMonth);
+        checks.illegalState("behind the last one", house::nextMonth);
         checks.due("owed in the month 0", house.owed(0, 1, 0), 10);
-        int disputed = accepted(house, 2, 1, 60);
+        int disputed = Houses.accepted(house, 2, 1, 60);
         house.dispute(disputed);
-        unchangedIllegalState("behind the last one again", house, house::nextMonth);
-        unchangedIllegalState("behind the last one a third time", house, house::nextMonth);
+        checks.illegalState("behind the last one again", house::nextMonth);
+        checks.illegalState("behind the last one a third time", house::nextMonth);
         checks.due("a dispute in the last month", house.call(disputed), RoamingHouse.DISPUTED);
     }
 
     private void unansweredDisputes() {
         checks.begin("19 nextMonth, disputes without an answer");
         RoamingHouse house = new RoamingHouse();
-        int file = draft(house, 0, 1, 4);
+        int file = Houses.draft(house, 0, 1, 4);
         house.send(file, 1);
         house.dispute(0);
         house.dispute(1);
@@ -792,11 +727,11 @@ public final class PromisesTest {
     private void owed() {
         checks.begin("21 owed");
         RoamingHouse house = new RoamingHouse();
-        int first = accepted(house, 0, 1, 600);
-        accepted(house, 0, 1, 60);
-        accepted(house, 0, 2, 120);
+        int first = Houses.accepted(house, 0, 1, 600);
+        Houses.accepted(house, 0, 1, 60);
+        Houses.accepted(house, 0, 2, 120);
         house.nextMonth();
-        accepted(house, 0, 1, 180);
+        Houses.accepted(house, 0, 1, 180);
         checks.due("month 0", house.owed(0, 1, 0), 110);
         checks.due("month 1", house.owed(0, 1, 1), 30);
         checks.due("another home", house.owed(0, 2, 0), 20);
@@ -809,37 +744,26 @@ public final class PromisesTest {
         house.answer(first, false);
         checks.due("one given back", house.owed(0, 1, 0), 9);
         for (int wrong : new int[] {-1, 2, 36, Integer.MIN_VALUE, Integer.MAX_VALUE}) {
-            unchangedIllegalArgument("month " + wrong, house, () -> house.owed(0, 1, wrong));
+            checks.illegalArgument("month " + wrong, () -> house.owed(0, 1, wrong));
         }
-        refusesWrongPairs("owed", house, (host, home) -> house.owed(host, home, 0));
-        refusesWrongPairs("owed, all wrong", house, (host, home) -> house.owed(host, home, -1));
-        checks.due("as many as there can be", greatestAmount().owed(3, 2, 0), 60L * 36001000);
-    }
-
-    private static RoamingHouse greatestAmount() {
-        RoamingHouse house = new RoamingHouse();
-        house.setTariff(3, 1, 1000, 1000);
-        int file = house.begin(3, 2);
-        for (int call = 0; call < 60; call++) {
-            house.enter(file, 36000, 36001000);
-        }
-        house.send(file, 1);
-        return house;
+        refusesWrongPairs("owed", (host, home) -> house.owed(host, home, 0));
+        refusesWrongPairs("owed, all wrong", (host, home) -> house.owed(host, home, -1));
+        checks.due("as many as there can be", Houses.dear(3, 2).owed(3, 2, 0), 60L * 36001000);
     }
 
     private void shortfall() {
         checks.begin("22 shortfall");
         RoamingHouse house = new RoamingHouse();
-        accepted(house, 0, 1, 600);
-        letPass(house, 11);
-        int last = accepted(house, 0, 1, 120);
+        Houses.accepted(house, 0, 1, 600);
+        Houses.letPass(house, 11);
+        int last = Houses.accepted(house, 0, 1, 120);
         house.promise(0, 1, 150);
-        unchangedIllegalState("in the last month of the year", house, () -> house.shortfall(0, 1, 0));
+        checks.illegalState("in the last month of the year", () -> house.shortfall(0, 1, 0));
         house.nextMonth();
-        accepted(house, 0, 1, 240);
+        Houses.accepted(house, 0, 1, 240);
         checks.due("year 0", house.shortfall(0, 1, 0), 30);
         checks.due("the other way round", house.shortfall(1, 0, 0), 0);
-        unchangedIllegalState("year 1 has begun", house, () -> house.shortfall(0, 1, 1));
+        checks.illegalState("year 1 has begun", () -> house.shortfall(0, 1, 1));
         house.dispute(last);
         house.answer(last, false);
         checks.due("one given back", house.shortfall(0, 1, 0), 50);
@@ -851,82 +775,54 @@ public final class PromisesTest {
         checks.due("less than what is owed", house.shortfall(0, 1, 0), 0);
         house.promise(0, 1, 100000000);
         checks.due("the greatest promise", house.shortfall(0, 1, 0), 99999950);
-        letPass(house, 11);
-        unchangedIllegalState("the last month of year 1", house, () -> house.shortfall(0, 1, 1));
+        Houses.letPass(house, 11);
+        checks.illegalState("the last month of year 1", () -> house.shortfall(0, 1, 1));
         house.nextMonth();
         checks.due("year 1", house.shortfall(0, 1, 1), 99999980);
         for (int wrong : new int[] {-1, 2, 3, Integer.MIN_VALUE, Integer.MAX_VALUE}) {
-            unchangedIllegalArgument("year " + wrong, house, () -> house.shortfall(0, 1, wrong));
+            checks.illegalArgument("year " + wrong, () -> house.shortfall(0, 1, wrong));
         }
-        refusesWrongPairs("shortfall", house, (host, home) -> house.shortfall(host, home, 0));
+        refusesWrongPairs("shortfall", (host, home) -> house.shortfall(host, home, 0));
         RoamingHouse fresh = new RoamingHouse();
-        refusesWrongPairs("shortfall, all wrong", fresh, (host, home) -> fresh.shortfall(host, home, -1));
-        refusesWrongPairs("shortfall, year not over", fresh, (host, home) -> fresh.shortfall(host, home, 0));
-        unchangedIllegalArgument("year 2 in a new house", fresh, () -> fresh.shortfall(0, 1, 2));
-        unchangedIllegalArgument("year -1 in a new house", fresh, () -> fresh.shortfall(0, 1, -1));
+        refusesWrongPairs("shortfall, all wrong", (host, home) -> fresh.shortfall(host, home, -1));
+        refusesWrongPairs("shortfall, year not over", (host, home) -> fresh.shortfall(host, home, 0));
+        checks.illegalArgument("year 2 in a new house", () -> fresh.shortfall(0, 1, 2));
+        checks.illegalArgument("year -1 in a new house", () -> fresh.shortfall(0, 1, -1));
     }
 
     private void net() {
         checks.begin("23 net");
         RoamingHouse house = new RoamingHouse();
-        accepted(house, 0, 1, 600);
-        accepted(house, 0, 2, 60);
-        accepted(house, 1, 0, 120);
-        accepted(house, 3, 0, 180);
+        Houses.accepted(house, 0, 1, 600);
+        Houses.accepted(house, 0, 2, 60);
+        Houses.accepted(house, 1, 0, 120);
+        Houses.accepted(house, 3, 0, 180);
         checks.due("of 0", house.net(0, 0), 100 + 10 - 20 - 30);
         checks.due("of 1", house.net(1, 0), 20 - 100);
         checks.due("of 2", house.net(2, 0), -10);
         checks.due("of 3", house.net(3, 0), 30);
         house.setRate(0, 1999);
         house.setTariff(0, 60, 1, 0);
-        accepted(house, 0, 3, 60);
+        Houses.accepted(house, 0, 3, 60);
         checks.due("each pair rounded down", house.net(0, 0), 199 + 19 + 1 - 20 - 30);
         checks.due("the home owes what is rounded down", house.net(3, 0), 30 - 1);
         house.setRate(1, 50);
         checks.due("in the money of the host", house.net(1, 0), 1 - 199);
         house.nextMonth();
-        accepted(house, 1, 2, 1200);
+        Houses.accepted(house, 1, 2, 1200);
         checks.due("another month, host", house.net(1, 1), 10);
         checks.due("another month, home", house.net(2, 1), -10);
         checks.due("another month, others", house.net(0, 1), 0);
         for (int wrong : new int[] {-1, 2, 36, Integer.MIN_VALUE, Integer.MAX_VALUE}) {
-            unchangedIllegalArgument("month " + wrong, house, () -> house.net(0, wrong));
+            checks.illegalArgument("month " + wrong, () -> house.net(0, wrong));
         }
         for (int none : NO_OPERATORS) {
-            unchangedOutOfBounds("operator " + none, house, () -> house.net(none, 0));
-            unchangedOutOfBounds("all wrong, operator " + none, house, () -> house.net(none, -1));
+            checks.outOfBounds("operator " + none, () -> house.net(none, 0));
+            checks.outOfBounds("all wrong, operator " + none, () -> house.net(none, -1));
         }
-        RoamingHouse dear = greatestAmount();
+        RoamingHouse dear = Houses.dear(3, 2);
         dear.setRate(3, 100000);
         checks.due("as many as there can be", dear.net(3, 0), 216006000000L);
         checks.due("as many as can be owed", dear.net(2, 0), -216006000000L);
-    }
-
-    private void wrongCallsInABusyHouse() {
-        checks.begin("wrong calls in a busy house");
-        RoamingHouse house = busyHouse();
-        unchangedIllegalArgument("setTariff", house, () -> house.setTariff(0, 30, 7, 1001));
-        unchangedIllegalArgument("setTariff", house, () -> house.setTariff(0, 31, 1001, 3));
-        unchangedIllegalArgument("setRate", house, () -> house.setRate(0, 100001));
-        unchangedIllegalArgument("agree", house, () -> house.agree(0, 1, 0, 10001, false));
-        unchangedIllegalArgument("agree", house, () -> house.agree(0, 1, 1000001, 0, true));
-        unchangedIllegalArgument("promise", house, () -> house.promise(0, 1, 100000001));
-        unchangedOutOfBounds("promise", house, () -> house.promise(0, 4, 3));
-        unchangedIllegalArgument("begin", house, () -> house.begin(2, 2));
-        unchangedIllegalArgument("enter", house, () -> house.enter(6, 60, 50000001));
-        unchangedIllegalState("enter", house, () -> house.enter(4, 60, 10));
-        unchangedIllegalArgument("send", house, () -> house.send(6, 100));
-        unchangedIllegalState("send", house, () -> house.send(7, 1));
-        unchangedIllegalState("send", house, () -> house.send(4, 5));
-        unchangedIllegalState("dispute", house, () -> house.dispute(0));
-        unchangedIllegalState("dispute", house, () -> house.dispute(1));
-        unchangedIllegalState("answer", house, () -> house.answer(1, false));
-        unchangedIllegalState("shortfall", house, () -> house.shortfall(0, 1, 1));
-        refusesWrongPairs("agree", house, (host, home) -> house.agree(host, home, 0, 5000, true));
-        refusesWrongPairs("promise", house, (host, home) -> house.promise(host, home, 3));
-        checks.due("promise before", house.promise(0, 1, 0), 5000);
-        checks.due("promise before", house.promise(1, 0, 0), 77);
-        checks.due("rate before", house.setRate(0, 1), 1500);
-        checks.due("price before", house.setTariff(0, 1, 1, 1), 7);
     }
 }

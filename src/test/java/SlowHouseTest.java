@@ -1,15 +1,20 @@
 import java.lang.reflect.InvocationTargetException;
 import java.lang.reflect.Method;
 import java.lang.reflect.Modifier;
+import java.util.ArrayList;
 import java.util.Arrays;
+import java.util.List;
 import java.util.Map;
 import java.util.Random;
 import java.util.TreeMap;
 
 /** Long runs of drawn calls, the same ones each time, whose answers are compared with those of SlowHouse. */
 public final class SlowHouseTest {
-    private static final int RUNS = 1000;
+    private static final int RUNS = 400;
+    // No house is promised to answer more calls than these.
     private static final int CALLS_OF_A_RUN = 512;
+    private static final int QUESTIONS_OF_A_PART = 64;
+    private static final int CALLS_OF_A_PART = QUESTIONS_OF_A_PART / 3;
     private static final int[] WRONG = {-1, 0, 4, 30, 60, 1001, 36001, Integer.MIN_VALUE, Integer.MAX_VALUE};
     // A call that stands here more often is drawn more often; asking is left to the whole comparisons, mostly.
     private static final String[] DRAWN = (
@@ -17,18 +22,22 @@ public final class SlowHouseTest {
         + "stateOf expected lacking calls call monthOf owedFor dispute dispute dispute answer answer agree agree "
         + "promise setRate nextMonth month owed shortfall net").split(" ");
 
+    private record Drawn(Method fast, Object[] arguments) {
+    }
+
     private final Random random;
+    private final List<Drawn> made = new ArrayList<>();
     private final RoamingHouse house = new RoamingHouse();
     private final SlowHouse slow = new SlowHouse();
     private final int operators;
-    private final boolean isHasty;
+    private final int pace;
     private String last = "";
 
     private SlowHouseTest(int seed) {
         random = new Random(seed);
-        // With two operators a pair gets many files and calls; without haste, each month does.
+        // With two operators a pair gets many files and calls; at a slow pace, each month does.
         operators = 2 + seed % 3;
-        isHasty = seed % 2 == 0;
+        pace = seed / 3 % 3;
     }
 
     public static void main(String[] args) throws ReflectiveOperationException {
@@ -51,54 +60,79 @@ public final class SlowHouseTest {
 
     private void run(Checks checks, Map<String, Method[]> methods) throws ReflectiveOperationException {
         for (int i = 0; i < CALLS_OF_A_RUN; i++) {
-            String name = DRAWN[random.nextInt(DRAWN.length)];
-            if (name.equals("nextMonth") && !isHasty && random.nextInt(3) > 0) {
-                continue;
-            }
+            String name = drawnName();
             Method[] both = methods.get(name);
             Object[] arguments = arguments(name);
             String got = answer(both[0], house, arguments);
             String want = answer(both[1], slow, arguments);
+            made.add(new Drawn(both[0], arguments));
             last = "call " + i + " " + name + Arrays.toString(arguments);
             checks.due(last, got, want);
             if (!got.equals(want)) {
                 return;
             }
-            if (i % 32 == 31 || got.startsWith("throws.") && i % 8 == 0) {
+            if (i % 64 == 63 && made.size() + QUESTIONS_OF_A_PART <= CALLS_OF_A_RUN) {
                 compareAll(checks);
             }
         }
     }
 
-    private void compareAll(Checks checks) {
-        checks.due("calls after " + last, house.calls(), slow.calls());
-        for (int call = 0; call < slow.calls(); call++) {
-            checks.due("call " + call + " after " + last, house.call(call), slow.call(call));
-            checks.due("monthOf " + call + " after " + last, house.monthOf(call), slow.monthOf(call));
-            checks.due("owedFor " + call + " after " + last, house.owedFor(call), slow.owedFor(call));
+    private String drawnName() {
+        String name = DRAWN[random.nextInt(DRAWN.length)];
+        boolean isTooSoon = name.equals("nextMonth") && pace == 0 && random.nextInt(3) > 0;
+        boolean isTooLate = pace == 2 && random.nextInt(16) == 0;
+        return isTooSoon ? "month" : isTooLate ? "nextMonth" : name;
+    }
+
+    /** Each part is asked of a house for which the run is made once more, so that it has calls left to answer. */
+    private void compareAll(Checks checks) throws IllegalAccessException {
+        checks.due("calls after " + last, madeOnceMore().calls(), slow.calls());
+        for (int first = 0; first < slow.calls(); first += CALLS_OF_A_PART) {
+            compareCalls(checks, madeOnceMore(), first);
         }
         for (int host = 0; host < operators; host++) {
-            checks.due("charge of " + host + " after " + last, house.charge(host, 601), slow.charge(host, 601));
-            for (int month = 0; month <= slow.month(); month++) {
-                checks.due("net of " + host + " after " + last, house.net(host, month), slow.net(host, month));
-            }
+            compareOperator(checks, madeOnceMore(), host);
             for (int home = 0; home < operators; home++) {
                 if (home != host) {
-                    comparePair(checks, host, home);
+                    comparePair(checks, madeOnceMore(), host, home);
                 }
             }
         }
     }
 
-    private void comparePair(Checks checks, int host, int home) {
-        String of = " of " + host + ", " + home + " after " + last;
-        checks.due("expected" + of, house.expected(host, home), slow.expected(host, home));
-        checks.due("lacking" + of, house.lacking(host, home), slow.lacking(host, home));
+    private RoamingHouse madeOnceMore() throws IllegalAccessException {
+        RoamingHouse another = new RoamingHouse();
+        for (Drawn each : made) {
+            answer(each.fast, another, each.arguments);
+        }
+        return another;
+    }
+
+    private void compareCalls(Checks checks, RoamingHouse another, int first) {
+        for (int call = first; call < first + CALLS_OF_A_PART && call < slow.calls(); call++) {
+            checks.due("call " + call + " after " + last, another.call(call), slow.call(call));
+            checks.due("monthOf " + call + " after " + last, another.monthOf(call), slow.monthOf(call));
+            checks.due("owedFor " + call + " after " + last, another.owedFor(call), slow.owedFor(call));
+        }
+    }
+
+    private void compareOperator(Checks checks, RoamingHouse another, int operator) {
+        String of = " of " + operator + " after " + last;
+        checks.due("charge" + of, another.charge(operator, 601), slow.charge(operator, 601));
         for (int month = 0; month <= slow.month(); month++) {
-            checks.due("owed" + of, house.owed(host, home, month), slow.owed(host, home, month));
+            checks.due("net" + of, another.net(operator, month), slow.net(operator, month));
+        }
+    }
+
+    private void comparePair(Checks checks, RoamingHouse another, int host, int home) {
+        String of = " of " + host + ", " + home + " after " + last;
+        checks.due("expected" + of, another.expected(host, home), slow.expected(host, home));
+        checks.due("lacking" + of, another.lacking(host, home), slow.lacking(host, home));
+        for (int month = 0; month <= slow.month(); month++) {
+            checks.due("owed" + of, another.owed(host, home, month), slow.owed(host, home, month));
         }
         for (int year = 0; year < 2 && slow.month() / 12 > year; year++) {
-            checks.due("shortfall" + of, house.shortfall(host, home, year), slow.shortfall(host, home, year));
+            checks.due("shortfall" + of, another.shortfall(host, home, year), slow.shortfall(host, home, year));
         }
     }
 
