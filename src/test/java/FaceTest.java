@@ -1,8 +1,11 @@
+import java.io.IOException;
 import java.lang.reflect.Constructor;
 import java.lang.reflect.Executable;
 import java.lang.reflect.Field;
 import java.lang.reflect.Method;
 import java.lang.reflect.Modifier;
+import java.nio.file.Files;
+import java.nio.file.Path;
 import java.util.Map;
 import java.util.Set;
 import java.util.TreeMap;
@@ -43,7 +46,49 @@ public final class FaceTest {
         "java.lang.IllegalArgumentException", "Argument",
         "java.lang.IllegalStateException", "State");
 
-    public static void main(String[] args) throws IllegalAccessException {
+    // As the document writes it down, with the headings that it wants ahead of some methods.
+    private static final String WRITTEN = """
+        public final class RoamingHouse {
+        public static final int NONE = -1;
+        public static final int DRAFT = 0, DOUBLE = 1, WAITS = 2, LATE = 3, BAD = 4, ACCEPTED = 5;
+        public static final int OUTSIDE = 0, OWED = 1, DISPUTED = 2, UPHELD = 3, BACK = 4;
+        public RoamingHouse()
+        // ---- tariffs and files
+        public int setTariff(int host, int step, int price, int beginning) \
+        throws IndexOutOfBoundsException, IllegalArgumentException
+        public int charge(int host, int seconds) throws IndexOutOfBoundsException, IllegalArgumentException
+        public int begin(int host, int home) \
+        throws IndexOutOfBoundsException, IllegalArgumentException, IllegalStateException
+        public int enter(int file, int seconds, int told) \
+        throws IndexOutOfBoundsException, IllegalArgumentException, IllegalStateException
+        public int send(int file, int number) \
+        throws IndexOutOfBoundsException, IllegalArgumentException, IllegalStateException
+        public int stateOf(int file) throws IndexOutOfBoundsException
+        public int expected(int host, int home) throws IndexOutOfBoundsException, IllegalArgumentException
+        public int lacking(int host, int home) throws IndexOutOfBoundsException, IllegalArgumentException
+        // ---- calls and disputes
+        public int calls()
+        public int call(int call) throws IndexOutOfBoundsException
+        public int monthOf(int call) throws IndexOutOfBoundsException
+        public int owedFor(int call) throws IndexOutOfBoundsException
+        public void dispute(int call) throws IndexOutOfBoundsException, IllegalStateException
+        public void answer(int call, boolean isUpheld) throws IndexOutOfBoundsException, IllegalStateException
+        // ---- agreements, promises and months
+        public void agree(int host, int home, int volume, int rate, boolean isBack) \
+        throws IndexOutOfBoundsException, IllegalArgumentException
+        public int promise(int host, int home, int promise) \
+        throws IndexOutOfBoundsException, IllegalArgumentException
+        public int setRate(int operator, int rate) throws IndexOutOfBoundsException, IllegalArgumentException
+        public int nextMonth() throws IllegalStateException
+        public int month()
+        // ---- what is owed
+        public long owed(int host, int home, int month) throws IndexOutOfBoundsException, IllegalArgumentException
+        public long shortfall(int host, int home, int year) \
+        throws IndexOutOfBoundsException, IllegalArgumentException, IllegalStateException
+        public long net(int operator, int month) throws IndexOutOfBoundsException, IllegalArgumentException
+        """;
+
+    public static void main(String[] args) throws IllegalAccessException, IOException {
         Checks checks = new Checks();
         checks.begin("face");
         int ofClass = RoamingHouse.class.getModifiers();
@@ -55,7 +100,19 @@ public final class FaceTest {
         checks.due("constructor", parameters(constructors[0]), "()");
         checks.isTrue("public constructor", Modifier.isPublic(constructors[0].getModifiers()));
         checks.due("private methods with a public one's name", String.valueOf(doubleNames()), "[]");
+        standsAsWritten(checks);
         checks.end("FaceTest");
+    }
+
+    private static void standsAsWritten(Checks checks) throws IOException {
+        String source = Files.readString(Path.of("src/main/java/RoamingHouse.java")).replaceAll("\\s+", " ");
+        int behindTheLast = 0;
+        for (String line : WRITTEN.lines().toList()) {
+            boolean isMethod = line.endsWith(")") || line.contains(" throws ");
+            int at = source.indexOf(isMethod ? line + " {" : line, behindTheLast);
+            checks.isTrue("in its place: " + line, at >= 0);
+            behindTheLast = Math.max(behindTheLast, at + line.length());
+        }
     }
 
     private static Set<String> visibleMethods() {

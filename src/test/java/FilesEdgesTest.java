@@ -33,6 +33,7 @@ public final class FilesEdgesTest {
         test.numbersFromOneOn();
         test.lowerThanExpected();
         test.aNumberWithWhichOneWaits();
+        test.aDoubleFileBegunAheadOfTheOneThatWaits();
         test.aWaitingNumberOfAnotherPair();
         test.doubleAheadOfLateAndBad();
         test.greaterThanExpected();
@@ -380,6 +381,23 @@ public final class FilesEdgesTest {
         checks.due("double for good", house.stateOf(twice), DOUBLE);
         checks.due("the same number again", house.send(Houses.draft(house, 0, 1, 1), 3), DOUBLE);
         checks.due("owed without double ones", house.owed(0, 1, 0), 40);
+    }
+
+    private void aDoubleFileBegunAheadOfTheOneThatWaits() {
+        checks.begin("a file of the pair waits with this number: the double one is not looked at in its place");
+        RoamingHouse house = new RoamingHouse();
+        int twice = Houses.draft(house, 0, 1, 1);
+        int first = Houses.draft(house, 0, 1, 1);
+        int waiting = Houses.draft(house, 0, 1, 2);
+        checks.due("waits", house.send(waiting, 2), WAITS);
+        checks.due("the same number", house.send(twice, 2), DOUBLE);
+        checks.due("lacking", house.lacking(0, 1), 1);
+        checks.due("the gap is filled", house.send(first, 1), ACCEPTED);
+        checks.due("looked at", house.stateOf(waiting), ACCEPTED);
+        checks.due("double for good", house.stateOf(twice), DOUBLE);
+        checks.due("expected", house.expected(0, 1), 3);
+        checks.due("owed without the double one", house.owed(0, 1, 0), 30);
+        checks.due("its call", house.call(0), RoamingHouse.OUTSIDE);
     }
 
     private void aWaitingNumberOfAnotherPair() {

@@ -257,9 +257,11 @@ public final class OwedEdgesTest {
     private void aGreatAmountIsNotShort() {
         checks.begin("Returns the amount, 0 or above, also if more is owed than an int holds");
         RoamingHouse house = Houses.dear(2, 0);
-        house.promise(2, 0, 100000000);
         Houses.letPass(house, 12);
-        checks.due("short", house.shortfall(2, 0, 0), 0);
+        for (int promise : new int[] {0, 1, 12000000, 13000000, 100000000}) {
+            house.promise(2, 0, promise);
+            checks.due("short of " + promise, house.shortfall(2, 0, 0), 0);
+        }
         house.agree(2, 0, 0, 9999, false);
         checks.due("short, with a discount", house.shortfall(2, 0, 0), 100000000 - 60 * 3601);
     }
