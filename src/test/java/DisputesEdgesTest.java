@@ -33,6 +33,7 @@ public final class DisputesEdgesTest {
         test.discountRoundedDown();
         test.greatestChargeDiscounted();
         test.monthsOfAYear();
+        test.yearInWhichCallsWereAccepted();
         test.orderOfAcceptance();
         test.othersSecondsDoNotCount();
         test.givenBackOnesCountForTheVolume();
@@ -409,6 +410,35 @@ public final class DisputesEdgesTest {
         }
     }
 
+    private void yearInWhichCallsWereAccepted() {
+        checks.begin("the accepted calls of the pair in this year: by the month in which they were accepted");
+        RoamingHouse house = Houses.inMonth(11);
+        int ofYear0 = Houses.accepted(house, 0, 1, 60);
+        // Begun and sent in year 0, and looked at in year 1, behind the file that was lacking.
+        int waiting = house.begin(0, 1);
+        int second = house.enter(waiting, 60, 10);
+        checks.due("waits", house.send(waiting, 3), RoamingHouse.WAITS);
+        house.nextMonth();
+        int first = Houses.accepted(house, 0, 1, 60);
+        checks.due("month", house.monthOf(second), 12);
+        int[][] volumeAndOwed = {{60, 10, 10, 5}, {61, 10, 10, 10}};
+        int[][] volumeAndOwedGoingBack = {{60, 5, 5, 5}, {61, 10, 5, 5}, {120, 10, 5, 5}, {121, 10, 10, 10}};
+        for (int[] row : volumeAndOwed) {
+            house.agree(0, 1, row[0], 5000, false);
+            owedForThree(house, "volume " + row[0], new int[] {ofYear0, first, second}, row);
+        }
+        for (int[] row : volumeAndOwedGoingBack) {
+            house.agree(0, 1, row[0], 5000, true);
+            owedForThree(house, "going back, volume " + row[0], new int[] {ofYear0, first, second}, row);
+        }
+    }
+
+    private void owedForThree(RoamingHouse house, String what, int[] calls, int[] volumeAndOwed) {
+        for (int i = 0; i < 3; i++) {
+            checks.due(what + ", call " + i, house.owedFor(calls[i]), volumeAndOwed[i + 1]);
+        }
+    }
+
     private void orderOfAcceptance() {
         checks.begin("in the order in which they were accepted; its calls by rising numbers");
         RoamingHouse house = new RoamingHouse();
@@ -434,15 +464,18 @@ public final class DisputesEdgesTest {
     private void othersSecondsDoNotCount() {
         checks.begin("the accepted calls of the pair in this year: no others");
         RoamingHouse house = new RoamingHouse();
+        int late = Houses.draft(house, 0, 1, 1);
+        Houses.letPass(house, 3);
         Houses.accepted(house, 1, 0, 600);
         Houses.accepted(house, 0, 2, 600);
         Houses.accepted(house, 2, 1, 600);
         house.send(Houses.draftWithWrongCalls(house, 0, 1, 1, 1), 1);
         house.send(Houses.draft(house, 0, 1, 1), 1);
-        house.send(Houses.draft(house, 0, 1, 1), 4);
+        house.send(Houses.draft(house, 0, 1, 1), 5);
         Houses.draft(house, 0, 1, 1);
+        checks.due("a late file", house.send(late, 2), RoamingHouse.LATE);
         int file = Houses.draftWithWrongCalls(house, 0, 1, 3, 1);
-        checks.due("a file with a refused call", house.send(file, 2), RoamingHouse.ACCEPTED);
+        checks.due("a file with a refused call", house.send(file, 3), RoamingHouse.ACCEPTED);
         int last = house.calls() - 1;
         house.agree(0, 1, 60, 5000, false);
         checks.due("the first accepted one", house.owedFor(last - 1), 10);
